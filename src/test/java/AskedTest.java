@@ -9,6 +9,7 @@ public final class AskedTest {
         promise22PriceIn();
         promise23CodeIn();
         promise29Sale();
+        fullHouse();
         promise29Signals();
         promise36Knock();
         promise37IsSound();
@@ -195,6 +196,38 @@ public final class AskedTest {
         CHECK.noArgument("fact -1", () -> v.sale(-1));
     }
 
+    private static void fullHouse() {
+        Wavesale w = new Wavesale();
+        for (int k = 0; k < 5; k++) {
+            w.region(1 + k, 1, 10 + k);
+        }
+        for (int k = 0; k < 6; k++) {
+            w.bidder(900, 10 + k, 0, 0);
+        }
+        CHECK.same("opening of five", w.open(), 60);
+        CHECK.same("the last region's price", w.ofRegion(4, 3), 14);
+        CHECK.same("the last bidder's points", w.ofBidder(5, 1), 15);
+        for (int k = 0; k < 6; k++) {
+            w.wish(k, 0, 1);
+            w.wish(k, 4, 1);
+        }
+        w.close(1);
+        CHECK.same("the last region's price then", w.ofRegion(4, 3), 15);
+        CHECK.same("and in the log", w.priceIn(1, 4), 14);
+        CHECK.same("the last bidder wished", w.codeIn(1, 5, false), 1297);
+        CHECK.same("and held", w.codeIn(1, 5, true), 1297);
+        CHECK.same("and wishes", w.ofBidder(5, 6), 1297);
+        CHECK.same("run anew", w.anew(1, 5, 4, 0), 60 + 1);
+        CHECK.same("prices of all five", w.anew(1, 5, 3, 1), 60 + 2);
+        w.wish(5, 0, 0);
+        w.close(1);
+        w.wish(5, 4, 0);
+        CHECK.same("no contradiction of the last one", w.contradicts(5), -1);
+        w.wish(5, 0, 0);
+        CHECK.same("its points", w.ofBidder(5, 7), 0);
+        CHECK.isTrue("sound with all of them", w.isSound());
+    }
+
     private static void promise29Signals() {
         Wavesale w = new Wavesale();
         for (int k = 0; k < 3; k++) {
@@ -313,6 +346,10 @@ public final class AskedTest {
         CHECK.same("digest of a new object", empty.digest(), digestOf(empty));
         Wavesale w = prepared();
         CHECK.same("prepared", w.digest(), digestOf(w));
+        Wavesale one = new Wavesale();
+        one.region(1, 1, 1);
+        one.station(0, 5);
+        CHECK.same("with one station", one.digest(), digestOf(one));
         w = running();
         CHECK.same("running", w.digest(), digestOf(w));
         w.close(2);
@@ -329,6 +366,19 @@ public final class AskedTest {
         CHECK.same("settled", w.digest(), digestOf(w));
         w.fail(2);
         CHECK.same("a default", w.digest(), digestOf(w));
+        Wavesale core = new Wavesale();
+        core.region(1, 1, 10);
+        core.region(1, 1, 10);
+        for (int k = 0; k < 3; k++) {
+            core.bidder(900, 9, 7, 0);
+        }
+        core.open();
+        core.close(1);
+        core.offer(0, 1, 100);
+        core.offer(1, 6, 60);
+        core.offer(2, 7, 131);
+        CHECK.isTrue("the two ways that are in it differ", core.wouldPay(0, 1) != core.wouldPay(0, 2));
+        CHECK.same("with both ways", core.digest(), digestOf(core));
         long before = w.digest();
         CHECK.same("twice the same", w.digest(), before);
         w.knock();

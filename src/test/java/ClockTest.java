@@ -17,7 +17,9 @@ public final class ClockTest {
         promise10PackagesOfTheClock();
         promise33Most();
         promise34Contradicts();
+        promise34ByWhatWasHeld();
         promise35Anew();
+        promise35AnewTwice();
         promise35AnewHasNoLimits();
         CHECK.end();
     }
@@ -243,7 +245,29 @@ public final class ClockTest {
         CHECK.same("without the rule it gets what it wishes", free.ofBidder(0, 5), 7);
         CHECK.same("without the rule none is counted", free.sale(8), 0);
         CHECK.same("three hold what has risen", free.ofRegion(1, 4), 3);
+        lastBidderContradicts();
         activityIsThatBehindTheRule();
+    }
+
+    private static void lastBidderContradicts() {
+        Wavesale w = sale(6, 1, 1, 10, 1, 1, 10, 2, 1, 10);
+        w.open();
+        w.wish(5, 0, 1);
+        w.wish(5, 2, 1);
+        w.wish(0, 1, 1);
+        w.wish(1, 1, 1);
+        w.close(1);
+        w.wish(5, 2, 0);
+        w.close(1);
+        CHECK.same("it wished less", w.codeIn(2, 5, false), 1);
+        CHECK.same("it holds what nobody else wishes", w.ofBidder(5, 5), 37);
+        CHECK.same("and so it wishes that again", w.ofBidder(5, 6), 37);
+        w.wish(5, 0, 0);
+        w.wish(5, 2, 0);
+        w.wish(5, 1, 1);
+        w.close(1);
+        CHECK.same("contradiction of the last one", w.ofBidder(5, 10), 1);
+        CHECK.same("counted among all", w.sale(8), 1);
     }
 
     private static void activityIsThatBehindTheRule() {
@@ -412,6 +436,9 @@ public final class ClockTest {
         CHECK.same("code of another", w.ofPackage(2, 0, false), 12);
         CHECK.same("amount of another", w.ofPackage(2, 0, true), 200);
         CHECK.same("both win", w.sale(9), 2);
+        CHECK.same("worth of these", w.sale(10), 222);
+        CHECK.same("payment by amounts", w.wouldPay(0, 0), 22);
+        CHECK.same("payment by harm", w.wouldPay(0, 1), 0);
         Wavesale poor = new Wavesale();
         poor.region(1, 1, 500);
         poor.bidder(0, 1, 0, 0);
@@ -566,6 +593,45 @@ public final class ClockTest {
         CHECK.same("one goes over to the other region", v.ofRegion(0, 3) + v.ofRegion(1, 3), 11 + 11);
         CHECK.same("a contradiction by the change alone", v.anew(2, 0, 1, 1), 11 + 11);
         CHECK.same("more than one without contradiction", v.anew(2, 1, 1, 1), 11 + 12);
+    }
+
+    /** A run that holds more must leave nothing of it to the next one. */
+    private static void promise35AnewTwice() {
+        Wavesale w = sale(6, 3, 1, 10, 3, 1, 20, 1, 1, 30);
+        w.rules(5, false);
+        w.open();
+        w.wish(0, 0, 3);
+        w.wish(1, 0, 1);
+        w.close(1);
+        int due = w.anew(1, 0, 0, 3);
+        CHECK.same("as it was", due, 11 + 20 + 30);
+        CHECK.same("more of another", w.anew(1, 5, 1, 5), 11 + 22 + 30);
+        CHECK.same("again as it was", w.anew(1, 0, 0, 3), due);
+        CHECK.isTrue("sound behind that", w.isSound());
+        CHECK.same("less, and the clock would be over", w.anew(1, 0, 0, 2), 10 + 20 + 30);
+    }
+
+    /** Round 1 is contradicted by what it held behind it, not by what it wished: it held more than that. */
+    private static void promise34ByWhatWasHeld() {
+        Wavesale w = sale(4, 2, 1, 10, 1, 1, 10);
+        w.rules(5, false);
+        w.open();
+        w.wish(0, 0, 2);
+        w.wish(1, 0, 1);
+        w.wish(2, 1, 1);
+        w.wish(3, 1, 1);
+        w.waive(1);
+        w.close(1);
+        w.wish(0, 0, 0);
+        w.waive(1);
+        w.close(1);
+        CHECK.same("it wished nothing", w.codeIn(2, 0, false), 0);
+        CHECK.same("and held one", w.codeIn(2, 0, true), 1);
+        CHECK.same("no excess of that then", w.ofRegion(0, 5), 0);
+        w.wish(1, 0, 2);
+        w.close(1);
+        CHECK.same("it rises again", w.ofRegion(0, 3), 12);
+        CHECK.same("what it holds contradicts nothing", w.contradicts(0), -1);
     }
 
     private static void promise35AnewHasNoLimits() {

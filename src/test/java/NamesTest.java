@@ -6,6 +6,7 @@ public final class NamesTest {
         promise27Holder();
         promise28Chart();
         turnsAvoidClashes();
+        allBlocksOfAllRegions();
         onlyNeighboursClash();
         turnsGoRoundSix();
         namesAfterADefault();
@@ -88,6 +89,32 @@ public final class NamesTest {
         CHECK.same("a clash in any case: turn 0", u.chart(1), "1,2");
         CHECK.same("the third has a clash with the second", u.chart(2), "2");
         CHECK.same("clashes of all", u.sale(13), 2);
+    }
+
+    private static void allBlocksOfAllRegions() {
+        Wavesale w = told(6, 4, 5, 5, 5, 5, 5);
+        CHECK.same("the last region ahead of the settling", w.chart(4), "-,-,-,-,-");
+        for (int bidder = 0; bidder < 5; bidder++) {
+            for (int nth = 0; nth < 5; nth++) {
+                w.offer(bidder, 1, 10);
+            }
+            w.offer(bidder, 1 + 6 + 36 + 216 + 1296, 50 + bidder);
+        }
+        w.settle(0);
+        for (int region = 0; region < 5; region++) {
+            CHECK.same("chart of " + region, w.chart(region), "0,1,2,3,4");
+        }
+        CHECK.same("the sixth package wins", w.wins(4), 5);
+        CHECK.same("no clash", w.sale(13), 0);
+        CHECK.isTrue("sound with all blocks", w.isSound());
+        Wavesale v = told(6, 1, 5, 5);
+        v.offer(0, 1 + 6, 50);
+        v.offer(5, 4, 50);
+        v.offer(4, 24, 50);
+        v.settle(0);
+        CHECK.same("five blocks", v.chart(0), "0,5,5,5,5");
+        CHECK.same("five others", v.chart(1), "0,4,4,4,4");
+        CHECK.same("clashes up to the last block", v.sale(13), 4);
     }
 
     private static void onlyNeighboursClash() {

@@ -21,6 +21,8 @@ public final class PackagesTest {
         promise31Harm();
         promise31Core();
         promise31CoreWithOneWhoPaysAll();
+        promise31CoreTurnByTurn();
+        promise31CoreWithManyWhoPayAll();
         promise31CoreOfSeveralSets();
         promise32Objects();
         CHECK.end();
@@ -59,6 +61,7 @@ public final class PackagesTest {
         CHECK.noArgument("code far off", () -> w.offer(0, Integer.MAX_VALUE, 50));
         CHECK.noArgument("amount below 0", () -> w.offer(0, A, -1));
         CHECK.noState("nothing", () -> w.offer(0, 0, 50));
+        CHECK.noState("for nothing", () -> w.offer(0, A, 0));
         CHECK.same("packages behind wrong ones", w.ofBidder(0, 8), 2);
         for (int k = 2; k < 6; k++) {
             CHECK.same("package " + k, w.offer(0, A, 50 + k), k);
@@ -131,6 +134,8 @@ public final class PackagesTest {
         CHECK.noState("default ahead of the settling", () -> w.fail(0));
         CHECK.noPlace("default of nobody ahead of the settling", () -> w.fail(4));
         w.offer(0, A, 59);
+        CHECK.same("a winner ahead of the settling", w.wins(0), 0);
+        CHECK.noState("its default ahead of the settling", () -> w.fail(0));
         w.offer(0, A, 50);
         w.offer(1, B, 40);
         w.offer(2, A + B, 80);
@@ -286,6 +291,23 @@ public final class PackagesTest {
         w.offer(4, 12, 25);
         CHECK.same("cap is one of a region", w.wins(4), 1);
         CHECK.same("worth of these", w.sale(10), 155);
+        lastGroup();
+    }
+
+    private static void lastGroup() {
+        Wavesale w = new Wavesale();
+        w.region(5, 1, 10);
+        w.bidder(900, 9, 0, 3);
+        w.bidder(900, 9, 0, 2);
+        w.bidder(900, 9, 0, 3);
+        w.rules(2, true);
+        w.open();
+        w.close(1);
+        w.offer(0, 2, 50);
+        w.offer(1, 2, 20);
+        w.offer(2, 1, 49);
+        CHECK.same("two groups, and one of each", w.sale(10), 70);
+        CHECK.same("no second one of group 3", w.wins(2), -1);
     }
 
     /** The first of the greatest, told package by package, so that each order of coming is tried. */
@@ -419,6 +441,42 @@ public final class PackagesTest {
         CHECK.same("the third pays all", w.wouldPay(2, 2), 100);
         CHECK.same("the others go on", w.wouldPay(0, 2), 85);
         CHECK.same("so does the second", w.wouldPay(1, 2), 85);
+    }
+
+    /** Rooms of 30, 30 and 4, and 20 are missing: 4 turns of all, then 4 of two. */
+    private static void promise31CoreTurnByTurn() {
+        Wavesale w = told(3, 5);
+        w.offer(0, A, 100);
+        w.offer(1, B, 100);
+        w.offer(2, C, 100);
+        w.offer(3, A + B + C, 256);
+        w.offer(4, A, 70);
+        w.offer(4, B, 70);
+        w.offer(4, C, 96);
+        CHECK.same("20 are missing", w.objects(8, 1), 20);
+        CHECK.same("the first", w.wouldPay(0, 2), 78);
+        CHECK.same("the second", w.wouldPay(1, 2), 78);
+        CHECK.same("the third pays all", w.wouldPay(2, 2), 100);
+    }
+
+    /** Rooms of 13, 13, 1, 3 and 6, and 23 are missing: 6 turns fill the last three, 1 is left for the first. */
+    private static void promise31CoreWithManyWhoPayAll() {
+        Wavesale w = told(5, 6);
+        int[] codes = {A, B, C, 216, 1296};
+        int[] rooms = {13, 13, 1, 3, 6};
+        int[] due = {94, 93, 100, 100, 100};
+        w.offer(0, A + B + C + 216 + 1296, 487);
+        for (int k = 0; k < 5; k++) {
+            w.offer(1 + k, codes[k], 100);
+            w.offer(0, codes[k], 100 - rooms[k]);
+        }
+        CHECK.same("23 are missing", w.objects(1, 1), 23);
+        for (int k = 0; k < 5; k++) {
+            CHECK.same("harm of " + (1 + k), w.wouldPay(1 + k, 1), 100 - rooms[k]);
+            CHECK.same("core of " + (1 + k), w.wouldPay(1 + k, 2), due[k]);
+        }
+        w.settle(2);
+        CHECK.same("all pay together what the first would", w.pays(1, false) + 93 + 300, 487);
     }
 
     /** The set that objects most is answered first, and of two with the same the smaller one. */

@@ -40,7 +40,7 @@ public final class RunsTest {
 
     public static void main(String[] args) {
         int first = args.length > 0 ? Integer.parseInt(args[0]) : 1;
-        int many = args.length > 1 ? Integer.parseInt(args[1]) : 300;
+        int many = args.length > 1 ? Integer.parseInt(args[1]) : 1500;
         RunsTest test = new RunsTest();
         for (int seed = first; seed < first + many; seed++) {
             test.run(seed);
@@ -49,7 +49,9 @@ public final class RunsTest {
                 System.exit(1);
             }
         }
-        System.out.println("RunsTest: " + test.answers);
+        if (args.length > 0) {
+            System.out.println("RunsTest: " + test.answers);
+        }
         System.out.println("RunsTest: " + many + " runs are right");
     }
 

@@ -150,6 +150,7 @@ public final class StationsTest {
         CHECK.same("not in the set", w.channel(13, 3, 1), -1);
         CHECK.same("without it", w.channel(13, 3, 3), 1);
         CHECK.same("without its neighbours", w.channel(10, 3, 1), 0);
+        CHECK.same("alone in one", w.channel(8, 1, 3), 0);
         CHECK.noPlace("station 4", () -> w.channel(15, 3, 4));
         CHECK.noPlace("station -1", () -> w.channel(15, 3, -1));
         CHECK.noPlace("station 4, and no set", () -> w.channel(-1, 3, 4));
@@ -158,6 +159,11 @@ public final class StationsTest {
         CHECK.noArgument("no channel", () -> w.channel(15, 0, 0));
         CHECK.noArgument("7 channels", () -> w.channel(15, 7, 0));
         channelThatLeavesRoom();
+        Wavesale full = sale(1);
+        for (int k = 0; k < 6; k++) {
+            full.station(0, 1);
+        }
+        CHECK.same("the last channel", full.channel(63, 6, 5), 5);
     }
 
     /** Regions in a line, 0 to 3: both ends could have channel 0, but the middle ones want two of their own. */
