@@ -1239,6 +1239,7 @@ public final class Wavesale {
             clashes = 0;
             for (int region = 0; region < terms.regions; region++) {
                 int bestTurn = 0;
+                // More than there can be, so that the first turn is taken at first.
                 int fewest = MAX_REGIONS * MAX_BLOCKS;
                 for (int turn = 0; turn < MAX_BIDDERS; turn++) {
                     giveByTurn(terms, market, region, turn);
