@@ -5,6 +5,7 @@ final class Check {
     }
 
     private final String name;
+    private String about = "";
     private int wrong = 0;
     private int done = 0;
 
@@ -12,11 +13,23 @@ final class Check {
         this.name = name;
     }
 
+    /** Names the sentence of a promise that the next checks are for; it must stand there word for word. */
+    void promise(int number, String sentence) {
+        about = "promise " + number + ", '" + sentence + "': ";
+        isTrue("the document says that", Document.ofPromise(number).contains(sentence));
+    }
+
+    /** The same for a part of the description; part 0 is what stands ahead of part 1. */
+    void part(int number, String sentence) {
+        about = "part " + number + ", '" + sentence + "': ";
+        isTrue("the document says that", Document.ofPart(number).contains(sentence));
+    }
+
     void same(String what, Object got, Object due) {
         done++;
         if (!due.equals(got)) {
             wrong++;
-            System.out.println(name + ": " + what + " answered " + got + ", due is " + due);
+            System.out.println(name + ": " + about + what + " answered " + got + ", due is " + due);
         }
     }
 
@@ -45,6 +58,25 @@ final class Check {
 
     void noState(String what, Call call) {
         fails(what, IllegalStateException.class, call);
+    }
+
+    /** The same, and the call leaves all as it was. */
+    void noPlace(String what, Wavesale w, Call call) {
+        long before = w.digest();
+        noPlace(what, call);
+        same("the digest behind " + what, w.digest(), before);
+    }
+
+    void noArgument(String what, Wavesale w, Call call) {
+        long before = w.digest();
+        noArgument(what, call);
+        same("the digest behind " + what, w.digest(), before);
+    }
+
+    void noState(String what, Wavesale w, Call call) {
+        long before = w.digest();
+        noState(what, call);
+        same("the digest behind " + what, w.digest(), before);
     }
 
     void end() {
