@@ -139,18 +139,21 @@ public final class RunsTest {
         }
         int regions = ask("sale", 2);
         int bidders = ask("sale", 3);
-        for (int k = random.nextInt(4 * bidders); k > 0; k--) {
+        // Now and then so many that the search has much to choose from.
+        boolean isFull = random.nextInt(40) == 0;
+        for (int k = isFull ? 12 * bidders : random.nextInt(4 * bidders); k > 0; k--) {
             int bidder = random.nextInt(bidders);
             int code = 0;
             int least = 0;
             for (int region = regions - 1; region >= 0; region--) {
-                int many = random.nextInt(3) == 0 ? random.nextInt(ask("ofRegion", region, 0) + 1) : 0;
+                int most = Math.min(ask("ofRegion", region, 0), isFull ? ask("sale", 5) : 5);
+                int many = random.nextInt(3) == 0 ? random.nextInt(most + 1) : 0;
                 code = code * 6 + many;
                 least += many * ask("ofRegion", region, 2);
             }
             int amount = least + random.nextInt(5) * random.nextInt(1 + least) / 4 + random.nextInt(3) - 1;
             call("offer", bidder, code, random.nextInt(12) == 0 ? ask("ofBidder", bidder, 0) + 1 : amount);
-            strange(random.nextInt(2));
+            strange(isFull ? 0 : random.nextInt(2));
             if (random.nextInt(5) == 0) {
                 payments();
             }
